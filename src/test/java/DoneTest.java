@@ -19,6 +19,7 @@ public final class DoneTest {
         refusals();
         undo();
         undoBringsAllBack();
+        undoBringsTheTailBack();
         undoKeepsTwenty();
         Check.end("DoneTest");
     }
@@ -345,6 +346,25 @@ public final class DoneTest {
         x.undo();
         Check.dueNight("not LOST", x, 3, 3, -6, 0, 0, 3, 4);
         Check.due("what waited waits", x.where(1, 0), 10087);
+    }
+
+    /** EAST and NORTH grow and shrink behind what is kept: each end of what was gathered has to come back. */
+    private static void undoBringsTheTailBack() {
+        int[][] there = {{9, 0}, {-9, 0}, {0, 9}, {0, -9}};
+        for (int[] press : there) {
+            HeldOnCross x = Check.mounted("m9 9 999;");
+            x.press(20, 20);
+            x.minute(1);
+            x.press(press[0], press[1]);
+            x.minute(1);
+            Check.due("9 by BUTTONS", x.told(16), 9);
+            x.undo();
+            x.undo();
+            Check.due("no TAIL again", x.told(16), 0);
+            x.press(press[0] / 3, press[1] / 3);
+            x.minute(1);
+            Check.due("3 by BUTTONS", x.told(16), 3);
+        }
     }
 
     private static void undoKeepsTwenty() {

@@ -69,6 +69,14 @@ public final class MountTest {
         Check.feedAll(x, "m0 0 1" + " ".repeat(224));
         Check.due("mount() of 230 letters, unended", x.mount(), -11);
         Check.due("its place", x.fault(), 230);
+        Check.feedAll(x, M + "w1,2,3;s4 5;");
+        Check.due("mount() of a longer text", x.mount(), 1);
+        Check.feedAll(x, "m0 0 1");
+        Check.due("what an earlier text had is not read again", x.mount(), -11);
+        Check.due("its place", x.fault(), 6);
+        Check.feedAll(x, "m0 0 1; ");
+        Check.due("mount() of a shorter text", x.mount(), 0);
+        Check.due("its WORM is one 0", x.told(4) * 100 + x.worm(0), 109);
     }
 
     private static void fine(String text, int stars) {

@@ -175,6 +175,7 @@ public final class SeenTest {
         x.minute(1);
         Check.due("now", x.judge(), 0);
         x.tear();
+        Check.due("an empty BOOK, not at 0, 0", x.judge(), -1);
         x.write(4, -2);
         x.write(4, -2);
         x.write(5, -2);

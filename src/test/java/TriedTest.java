@@ -108,6 +108,12 @@ public final class TriedTest {
             Check.due("bestRule(" + n[i] + ", 0) later", x.bestRule(n[i], 0), later[i]);
             Check.due("bestRule(" + n[i] + ", 1) later", x.bestRule(n[i], 1), laterTail[i]);
         }
+        HeldOnCross f = Check.mounted("m7 18 60;w0,0,0;b9;");
+        Check.due("an f of 11 would be better", f.bestRule(5, 0), 10);
+        Check.due("an f of 11 would have 7", f.bestRule(5, 1), 8);
+        HeldOnCross h = Check.mounted("m16 13 60;w9,18,15;b9;");
+        Check.due("an h of 10 would be better", h.bestRule(8, 0), 10);
+        Check.due("an h of 10 would have 16 by less", h.bestRule(8, 1), 16);
         HeldOnCross y = Check.mounted("m18 9 5;");
         Check.due("all LOST: the least", y.bestRule(9, 0), 1);
         Check.due("all LOST: 9999", y.bestRule(9, 1), 9999);
@@ -169,6 +175,8 @@ public final class TriedTest {
         }
         Check.due("guide(0)", x.guide(0), OUTSIDE);
         Check.due("guide(10)", x.guide(10), OUTSIDE);
+        Check.due("STAR 0", Check.mounted("m9 9 9;s7 5;s8 9;").guide(1), 0);
+        Check.due("of like ones the least", Check.mounted("m9 9 9;s7 5;s7 5;s7 4;").guide(1), 0);
         Check.due("none so light", Check.mounted("m9 9 9;s20 5;").guide(6), -1);
         Check.due("no STARS", Check.mounted("m9 9 9;").guide(1), -1);
         Check.due("no STARS, OUTSIDE", new HeldOnCross().guide(0), OUTSIDE);
