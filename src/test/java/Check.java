@@ -2,8 +2,14 @@
 final class Check {
     private static int right;
     private static int wrong;
+    private static String heading = "";
 
     private Check() {
+    }
+
+    /** What is told ahead of an answer that is not due, from here on. */
+    static void under(String what) {
+        heading = "[" + what + "] ";
     }
 
     static void due(String call, long got, long want) {
@@ -11,7 +17,7 @@ final class Check {
             right++;
         } else {
             wrong++;
-            System.out.println(call + " answered " + got + ", due is " + want);
+            System.out.println(heading + call + " answered " + got + ", due is " + want);
         }
     }
 
@@ -44,6 +50,12 @@ final class Check {
         due(when + ": SHUT", x.told(14), shut);
         due(when + ": LIGHT minutes", x.told(15), light);
         due(when + ": TAIL", x.told(16), tail);
+    }
+
+    /** EAST and NORTH, as told. */
+    static void duePlace(String when, HeldOnCross x, int east, int north) {
+        due(when + ": EAST", x.told(11), east + 10000);
+        due(when + ": NORTH", x.told(12), north + 10000);
     }
 
     static void end(String name) {
