@@ -454,8 +454,7 @@ public final class HeldOnCross {
             clock = 0;
             axis = 0;
             limit = 0;
-            wormRates[0] = 0;
-            wormLength = 1;
+            setWorm(0, 0);
             jumpMinute = NONE;
             jumpSize = 0;
             perPress = 1;

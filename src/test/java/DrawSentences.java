@@ -12,6 +12,7 @@ final class DrawSentences {
         undone();
         undoneByEach();
         undoneIsAllOfSectionTwo();
+        undoneIsThePlate();
         images();
         drift();
         undo();
@@ -164,6 +165,33 @@ final class DrawSentences {
         x.feed('m');
         x.undo();
         Check.due("of what is no part of section 2 nothing", x.told(17) + x.told(18) + x.told(19) + x.told(9), 4);
+    }
+
+    /** Each end of what THE PLATE gathered comes back: what is gathered behind an undo() widens the TAIL as it was. */
+    private static void undoneIsThePlate() {
+        for (int[] way : new int[][] {{1, 0}, {-1, 0}, {0, 1}, {0, -1}}) {
+            for (int first = -30; first <= 30; first += 60) {
+                HeldOnCross x = Check.mounted("m9 9 999;");
+                x.press(first, first);
+                x.minute(1);
+                x.press(9 * way[0], 9 * way[1]);
+                x.keep(0);
+                x.minute(1);
+                Check.due("9 more", x.told(16), 9);
+                x.undo();
+                Check.due("undone", x.told(16), 0);
+                x.press(3 * way[0], 3 * way[1]);
+                x.minute(1);
+                Check.due("3 more", x.told(16), 3);
+                x.plate();
+                x.minute(1);
+                x.goBack(0);
+                Check.due("by an IMAGE", x.told(16), 0);
+                x.press(-2 * way[0], -2 * way[1]);
+                x.minute(1);
+                Check.due("2 the other way", x.told(16), 2);
+            }
+        }
     }
 
     private static void images() {

@@ -256,6 +256,16 @@ final class MountSentences {
             }
         }
         faulty("m0 0 1" + " ".repeat(224), 1, 230);
+        // what a longer text had there is not read again
+        for (int length = 1; length < ALL_CLAUSES.length(); length++) {
+            HeldOnCross x = Check.mounted(ALL_CLAUSES);
+            String text = ALL_CLAUSES.substring(0, length);
+            boolean isWhole = text.endsWith(";");
+            int stars = text.indexOf('s') >= 0 ? 1 : 0;
+            Check.feedAll(x, text);
+            Check.due("mount() of '" + text + "' behind a longer text", x.mount(), isWhole ? stars : -11);
+            Check.due("fault()", x.fault(), isWhole ? -1 : length);
+        }
         // the first letter counts, whatever comes behind it
         faulty("m19 0 0;m", 2, 1);
         faulty("m0 19 x", 2, 3);

@@ -158,10 +158,13 @@ final class TriedSentences {
         dueBest(Check.mounted("m18 9 50;w18,0,0,0,0,0,0,0,0;j5 198;"), 9, 10, 9999);
     }
 
-    /** Rules beyond the bounds that would do better; found by the model, looked through with its like beyond the bounds. */
     private static void bestRuleBounds() {
-        dueBest(Check.mounted("m7 18 60;w0,0,0;b9;"), 5, 10, 8);
-        dueBest(Check.mounted("m16 13 60;w9,18,15;b9;"), 8, 10, 16);
+        // 9, 3, 9 a minute, BUTTONS of 2: h = 9 lets it go to 12, back by 10 and on to 11; who presses at 9 has 5 at least
+        dueBest(Check.mounted("m9 9 99;w18,12;b2;"), 3, 909, 3);
+        // 10, 3, 10 a minute: h = 10 would let it go to 13 and back by 10, with a TAIL of 3
+        dueBest(Check.mounted("m16 9 99;w12,5;b2;"), 3, 5, 6);
+        // 2, 11, 11 a minute: f = 11 would press 12 at 11, with a TAIL of 9
+        dueBest(Check.mounted("m13 9 99;w16;j0 90;b2;"), 3, 10, 10);
     }
 
     private static void dueBest(HeldOnCross x, int n, int rule, int tail) {
@@ -253,6 +256,10 @@ final class TriedSentences {
         Check.due("of like ones of more LIGHT, the first", Check.mounted("m9 9 9;s2 4;s2 3;").guide(1), 0);
         Check.due("then the least", Check.mounted("m9 9 9;s9 9;s2 4;s2 4;s2 4;").guide(1), 1);
         Check.due("the sixth", Check.mounted("m9 9 9;s9 1;s9 1;s9 1;s9 1;s9 1;s9 2;").guide(2), 5);
+        Check.feedAll(x, "m9 9 9;s50 1;");
+        x.mount();
+        Check.due("of STARS that there are no more none", x.guide(2), NONE);
+        Check.due("the one that there is", x.guide(1), 0);
     }
 
     private static void turns() {
