@@ -1,3 +1,6 @@
+import java.util.Arrays;
+import java.util.List;
+
 /** Section 3 of "Terms" as far as promises 13, 14 and 33 to 35 go: dances, what is undone, images. */
 final class DrawSentences {
     private static final int UNKNOWN = -1000000001, OUTSIDE = -1000000002, NOT = -1000000003;
@@ -115,13 +118,13 @@ final class DrawSentences {
                 int seed = name.equals("drift") ? (int) next(next(5)) : 5;
                 Check.due(name + " can be undone", x.told(20), can + 1);
                 Check.due("undo() of " + name, x.undo(), can);
-                Check.holds("as ahead of " + name, java.util.Arrays.equals(section2(x), ahead));
+                Check.holds("as ahead of " + name, Arrays.equals(section2(x), ahead));
                 Check.due("THE SEED stays", x.seed(0), seed);
             }
         }
         HeldOnCross x = Check.mounted("m9 9 99;");
         for (Calls.Call call : Calls.ALL) {
-            if (!java.util.List.of(names).contains(call.name()) && !call.name().equals("mount")) {
+            if (!List.of(names).contains(call.name()) && !call.name().equals("mount")) {
                 call.of(x);
                 Check.due(call.name() + " is none of them", x.told(20), 0);
             }
